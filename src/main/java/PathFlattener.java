@@ -777,7 +777,8 @@ public final class PathFlattener {
         }
     }
 
-    // The flattened path: all vertices in one row, each contour's from firsts[contour] on.
+    // The flattened path: all vertices in one row, each contour's from firsts[contour] on;
+    // one more entry of firsts holds the size, where a further contour would begin.
     // A segment is known by the index of its second vertex.
     private static final class Flat {
         private final int[] xs;
@@ -825,7 +826,6 @@ public final class PathFlattener {
             if (contours >= MOST_COMMANDS) {
                 return;
             }
-            firsts[contours] = size;
             closed[contours] = false;
             contours++;
             append(command, x, y, 0);
