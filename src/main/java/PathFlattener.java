@@ -908,8 +908,13 @@ public final class PathFlattener {
             return has(contour) && closed[contour];
         }
 
+        private boolean isVertex(int vertex) {
+            return vertex >= 0 && vertex < size;
+        }
+
         int lengthOf(int contour) {
-            return has(contour) ? distances[firsts[contour + 1] - 1] : 0;
+            int last = firstOf(contour + 1) - 1;
+            return has(contour) && isVertex(last) ? distances[last] : 0;
         }
 
         int lengthMadeBy(int command) {
@@ -924,7 +929,7 @@ public final class PathFlattener {
         }
 
         int vertexNumber(int vertex, int what) {
-            if (vertex < 0 || vertex >= size) {
+            if (!isVertex(vertex)) {
                 return NO_SUCH;
             }
             switch (what) {
@@ -1036,7 +1041,7 @@ public final class PathFlattener {
         // From where the line to a vertex comes: for a contour's first vertex, the line
         // that closes the contour, which is a mere point if the contour ends where it begins.
         private int vertexBefore(int vertex, int contour) {
-            return vertex > firsts[contour] ? vertex - 1 : firsts[contour + 1] - 1;
+            return vertex > firstOf(contour) ? vertex - 1 : firstOf(contour + 1) - 1;
         }
 
         int windingAround(int x, int y) {
@@ -1050,6 +1055,9 @@ public final class PathFlattener {
         }
 
         private int crossing(int from, int to, int x, int y) {
+            if (!isVertex(from) || !isVertex(to)) {
+                return 0;
+            }
             boolean up = ys[from] <= y && ys[to] > y;
             boolean down = ys[to] <= y && ys[from] > y;
             int side = (xs[to] - xs[from]) * (y - ys[from]) - (x - xs[from]) * (ys[to] - ys[from]);
@@ -1062,20 +1070,29 @@ public final class PathFlattener {
         long twiceTheArea(int contour) {
             long sum = 0;
             for (int i = firstOf(contour); i < firstOf(contour + 1); i++) {
-                int before = vertexBefore(i, contour);
-                sum += (long) xs[before] * ys[i] - (long) xs[i] * ys[before];
+                sum += turn(vertexBefore(i, contour), i);
             }
             return sum;
         }
 
+        private int turn(int from, int to) {
+            return isVertex(from) && isVertex(to) ? xs[from] * ys[to] - xs[to] * ys[from] : 0;
+        }
+
         // What a squared deviation has to be compared by in place of 1.
         long deviationScale(int from, int to) {
+            if (!isVertex(from) || !isVertex(to)) {
+                return 1;
+            }
             long dx = xs[to] - xs[from];
             long dy = ys[to] - ys[from];
             return dx == 0 && dy == 0 ? 1 : dx * dx + dy * dy;
         }
 
         long deviation(int from, int to, int vertex) {
+            if (!isVertex(from) || !isVertex(to) || !isVertex(vertex)) {
+                return 0;
+            }
             long dx = xs[to] - xs[from];
             long dy = ys[to] - ys[from];
             long awayX = xs[vertex] - xs[from];
@@ -1089,7 +1106,7 @@ public final class PathFlattener {
 
         int boundOf(int from, int to, int what) {
             int[] coordinates = what % 2 == 0 ? xs : ys;
-            int bound = from >= 0 && from < size ? coordinates[from] : 0;
+            int bound = isVertex(from) ? coordinates[from] : 0;
             for (int i = from; i < to && i < size; i++) {
                 bound = what < 2 ? Math.min(bound, coordinates[i]) : Math.max(bound, coordinates[i]);
             }
@@ -1255,6 +1272,7 @@ public final class PathFlattener {
     // The letters, and where they come to lie on a path.
     private static final class Lettering {
         private static final int NOWHERE = -1;
+        private static final int NO_LETTER = -1;
 
         private final int[] letters;
         private final int[] widths;
@@ -1316,14 +1334,18 @@ public final class PathFlattener {
             return pairs;
         }
 
+        private int letterAt(int index) {
+            return index >= 0 && index < size ? letters[index] : NO_LETTER;
+        }
+
         private int widthAt(int index) {
-            return widths[letters[index]];
+            int letter = letterAt(index);
+            return isLetter(letter) ? widths[letter] : 0;
         }
 
         // How far behind the begin of a letter the next one begins.
         private int stepAfter(int index) {
-            int kerning = index + 1 < size ? kerningOf(letters[index], letters[index + 1]) : 0;
-            return widthAt(index) + spacing + kerning;
+            return widthAt(index) + spacing + kerningOf(letterAt(index), letterAt(index + 1));
         }
 
         void layOn(Flat flat, int contour) {

@@ -8,6 +8,10 @@ final class Checks {
         this.name = name;
     }
 
+    int made() {
+        return made;
+    }
+
     void due(String call, long got, long want) {
         made++;
         if (got != want) {

@@ -67,8 +67,9 @@ public final class PromisesTest {
         for (char c : text.toCharArray()) x.say(c);
     }
 
+    // A new object for each text: what an object answers behind its 512th call is free.
     private static int faultOf(String text) {
-        x.wipe();
+        fresh(promise);
         say(text);
         return x.fault();
     }
@@ -396,6 +397,7 @@ public final class PromisesTest {
         due("the pad stays", x.count(3) > 0 ? 1 : 0, 1);
         due("the path stays", x.count(0), 24);
         due("the path's first point stays", x.command(0, 3), 0);
+        fresh(15);
         due("beyond by one", path("M-4000,0l-1,0"), NOT_POSSIBLE);
         due("a control point beyond", path("M0,4000q0,1,0,0"), NOT_POSSIBLE);
         due("beyond, and back", path("M4000,0l1,0l-1,0"), NOT_POSSIBLE);
