@@ -789,7 +789,7 @@ public final class PathFlattener {
         private final boolean[] closed;
         private final Halver halver;
         private int size;
-        private int contours;
+        int contours;
 
         Flat() {
             xs = new int[MOST_VERTICES];
@@ -1397,7 +1397,7 @@ public final class PathFlattener {
             int begin = offset;
             for (int i = 0; i < size; i++) {
                 int width = widthAt(i);
-                while (flat.has(home) && (!flat.hasSegments(home) || begin + width > flat.lengthOf(home))) {
+                while (home < flat.contours && (!flat.hasSegments(home) || begin + width > flat.lengthOf(home))) {
                     home++;
                     begin = 0;
                 }
